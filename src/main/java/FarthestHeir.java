@@ -1585,7 +1585,11 @@ public final class FarthestHeir {
 
     /** All NOSES, TEMPERS and CATS gone through: what somebody may feign, what a DUKE was like. */
     private static final class Guess {
+        private static final int NUMBERS = 10;
+
         private final int[] met = new int[FAR_MOST + 1];
+        /** How far each number of each TRAIT is from what one shows: made once for a thousand kinds. */
+        private final int[] gaps = new int[TRAITS * NUMBERS];
         final int[] fit = new int[KINDS];
         int many = 0;
         int asked = NONE;
@@ -1605,6 +1609,7 @@ public final class FarthestHeir {
                 return NONE;
             }
             int needed = neededFar(realm, law, person);
+            mind(realm, realm.duke);
             int least = Integer.MAX_VALUE;
             int numbers = NONE;
             for (int kind = 0; kind < KINDS; kind++) {
@@ -1643,14 +1648,21 @@ public final class FarthestHeir {
                 feints += traitOf(kind, t) == realm.own(person, t) ? 0 : 1;
             }
             law.suppose(feints, realm.years(person), realm.reign, realm.year, person);
-            return farFromKind(realm, law, realm.duke, kind);
+            return farFromKind(law, kind);
         }
 
-        /** FAR of the one that the LAW regards, if it or the other one shows such a kind. */
-        private int farFromKind(Realm realm, Law law, int other, int kind) {
-            return law.measured(Math.abs(traitOf(kind, 0) - realm.shown(other, 0)),
-                    Math.abs(traitOf(kind, 1) - realm.shown(other, 1)),
-                    Math.abs(traitOf(kind, 2) - realm.shown(other, 2)));
+        private void mind(Realm realm, int person) {
+            for (int i = 0; i < gaps.length; i++) {
+                gaps[i] = Math.abs(i % NUMBERS - realm.shown(person, i / NUMBERS));
+            }
+        }
+
+        /** FAR between a kind and the one who is minded, for that one of both whom the LAW regards. */
+        private int farFromKind(Law law, int kind) {
+            if (kind < 0 || kind >= KINDS) {
+                return NONE;
+            }
+            return law.measured(gaps[kind / 100], gaps[NUMBERS + kind / 10 % 10], gaps[2 * NUMBERS + kind % 10]);
         }
 
         /** Finds all kinds of DUKES by which all lines of a BOOK are right. */
@@ -1669,8 +1681,9 @@ public final class FarthestHeir {
         private void sift(Realm realm, Law law, int person, int far) {
             int kept = 0;
             law.regard(realm, person);
+            mind(realm, person);
             for (int i = 0; i < many && i < fit.length; i++) {
-                if (realm.has(person) && farFromKind(realm, law, person, fit[i]) == far) {
+                if (realm.has(person) && farFromKind(law, fit[i]) == far) {
                     fit[kept] = fit[i];
                     kept++;
                 }
@@ -1696,8 +1709,9 @@ public final class FarthestHeir {
             }
             int worst = 0;
             law.regard(realm, person);
+            mind(realm, person);
             for (int i = 0; i < many && i < fit.length; i++) {
-                int far = farFromKind(realm, law, person, fit[i]);
+                int far = farFromKind(law, fit[i]);
                 if (far >= 0 && far < met.length) {
                     met[far]++;
                     worst = Math.max(worst, met[far]);
