@@ -348,6 +348,10 @@ public final class QuestionsTest {
         Checks.due("the most", h.middling(1), 99);
         Checks.illegal("what", () -> h.middling(2));
         Checks.illegal("what", () -> h.middling(-1));
+        Checks.work(h, "die 0;");
+        Checks.law(h, LAW);
+        Checks.due("of two", h.middling(0), 2);
+        Checks.due("of two", h.middling(1), 8);
         Checks.due("one left", oneLeft().middling(0), -1);
         Checks.due("nobody", nobody().middling(1), -1);
     }

@@ -3,6 +3,7 @@ public final class TextsTest {
     public static void main(String[] args) {
         newObject();
         tape();
+        textsEnd();
         dukedoms();
         dukedomFaults();
         dukedomForgets();
@@ -57,6 +58,21 @@ public final class TextsTest {
         h.feed(0x6c616e64, 0x203f3bff, 0, 0, 0);
         Checks.due("a byte that can't stand", h.dukedom(8), -9);
         Checks.due("there", h.fault(), 5);
+    }
+
+    /** The TAPE may hold more than the text. */
+    private static void textsEnd() {
+        FarthestHeir h = new FarthestHeir();
+        Checks.feed(h, "nosebag");
+        Checks.due("a word ends with the text", h.law(4), 1);
+        Checks.feed(h, "1234");
+        Checks.due("a number ends with the text", h.law(2), 1);
+        Checks.due("it is 12", h.would(0, 0, 0, 0, 0, 0, 0, 0), 12);
+        Checks.feed(h, "year; year");
+        Checks.due("blanks end with the text", h.work(6), 1);
+        Checks.feed(h, "0 1;");
+        Checks.due("a sign ends with the text", h.book(3), -9);
+        Checks.due("at the length", h.fault(), 3);
     }
 
     private static void dukedom(String text, int want, int fault) {
@@ -247,6 +263,8 @@ public final class TextsTest {
         Checks.due("blanks", Checks.work(h, "  year ;  again 2 [ year ; year;  ] ;  "), 5);
         Checks.due("year", h.told(5), 5);
         Checks.due("again 0", Checks.work(h, "again 0[year;];again 3[];"), 0);
+        Checks.due("behind again 0", Checks.work(h, "again 0[year;];drop 0;birth 0 1;again 0[];die 0;"), 2);
+        h.undo();
         Checks.due("again in again", Checks.work(h, "again 2[year;again 3[year;];];"), 8);
         Checks.due("six open", Checks.work(h, Checks.times("again 2[", 6) + "year;" + Checks.times("];", 6)), 64);
         Checks.due("year now", h.told(5), 77);
