@@ -1,7 +1,7 @@
 import java.util.Random;
 
 /**
- * Promises 15, 17 to 22, 27, 30, 34 and 35 held against plain searches that use nothing but what the face tells of one
+ * Promises 15 to 24, 27, 30, 34 and 35 held against plain searches that use nothing but what the face tells of one
  * PERSON, or of two. The searches make more than 512 calls on an object: the class keeps no count of them.
  */
 public final class BruteForceTest {
@@ -29,8 +29,11 @@ public final class BruteForceTest {
             pairs();
             guesses();
             ranks();
+            children();
+            middling();
             for (int p = 0; p < persons; p++) {
                 feint(p);
+                ring(p);
                 shares(p, RANDOM.nextInt(1 << persons), RANDOM.nextInt(90));
             }
         }
@@ -253,5 +256,59 @@ public final class BruteForceTest {
             Checks.due(told + "beyond " + p, h.beyond(p, 20), bits);
             Checks.due(told + "mild " + p, h.mild(20) >> p & 1, mild ? 1 : 0);
         }
+    }
+
+    private static void children() {
+        int duke = h.told(2);
+        int two = -1;
+        int most = -1;
+        for (int a = persons - 1; a >= 0; a--) {
+            for (int b = persons - 1; b > a; b--) {
+                if (lives(a) && lives(b)) {
+                    int[] apart = new int[3];
+                    for (int t = 0; t < 3; t++) {
+                        apart[t] = Math.abs((h.person(a, 3 + t) + h.person(b, 3 + t)) / 2 - h.person(duke, t));
+                    }
+                    int far = h.would(apart[0], apart[1], apart[2], 0, 0, h.told(3), h.told(5), persons);
+                    two = far >= most ? 10 * a + b : two;
+                    most = Math.max(most, far);
+                }
+            }
+        }
+        Checks.due(told + "child", h.child(0), two);
+        Checks.due(told + "child far", h.child(1), most);
+    }
+
+    private static void middling() {
+        int who = -1;
+        int least = -1;
+        for (int p = persons - 1; p >= 0; p--) {
+            int most = -1;
+            for (int q = 0; q < persons; q++) {
+                most = p != q && lives(p) && lives(q) ? Math.max(most, h.far(q, p)) : most;
+            }
+            if (most >= 0 && (who < 0 || most <= least)) {
+                who = p;
+                least = most;
+            }
+        }
+        Checks.due(told + "middling", h.middling(0), who);
+        Checks.due(told + "middling far", h.middling(1), least);
+    }
+
+    private static void ring(int from) {
+        int[] met = new int[persons];
+        int at = from;
+        int steps = 1;
+        while (living() > 1 && met[at] == 0) {
+            met[at] = steps++;
+            int next = -1;
+            for (int p = persons - 1; p >= 0; p--) {
+                next = p != at && lives(p) && (next < 0 || h.far(p, at) >= h.far(next, at)) ? p : next;
+            }
+            at = next;
+        }
+        Checks.due(told + "tail " + from, h.ring(from, 0), living() > 1 ? met[at] - 1 : 0);
+        Checks.due(told + "round " + from, h.ring(from, 1), living() > 1 ? steps - met[at] : 0);
     }
 }
