@@ -293,8 +293,8 @@ public final class FarthestHeir {
         if (above == 0) {
             return part;
         }
-        int bits = Math.min(Long.numberOfTrailingZeros(above), 4 * n);
-        return (part == 0 ? above : 1L << (4 * n)) >> bits;
+        // Below there is a power of two, which is never less than what is above.
+        return (part == 0 ? above : 1L << (4 * n)) >> Long.numberOfTrailingZeros(above);
     }
 
     public int feigning(int v, int w, int what) throws IllegalArgumentException {

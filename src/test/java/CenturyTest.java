@@ -67,6 +67,8 @@ public final class CenturyTest {
 
     private static void spans() {
         FarthestHeir h = ready();
+        Checks.due("all live by 0 of 16", h.span(9, 20, 1, 0, 2, 1), 20);
+        Checks.due("a dead one does not", h.span(9, 20, 1, 0, 2, 3), 0);
         int[] manies = {1, 7, 20};
         for (int many : manies) {
             for (int p = 0; p < 5; p++) {

@@ -255,6 +255,8 @@ public final class QuestionsTest {
         Checks.due("nobody there", new FarthestHeir().ask(1), -1);
         Checks.work(h, "die 0;die 2;die 3;");
         Checks.due("the dead alone", h.ask(0), 1);
+        Checks.law(h, "99");
+        Checks.due("all are left", h.ask(1), 1000);
     }
 
     private static void pairs() {
@@ -468,6 +470,7 @@ public final class QuestionsTest {
         Checks.work(h, "die 1;feign 3 2 2;");
         Checks.due("by what they show", h.alike(0), 3);
         Checks.due("of the living", h.alike(1), 23);
+        Checks.due("of all the first", Checks.ruled("person 1 1 1;person 1 1 1;").alike(1), 1);
         Checks.due("none", Checks.ruled(FOUR).alike(0), 0);
         Checks.due("none", Checks.ruled(FOUR).alike(1), -1);
         Checks.illegal("what", () -> h.alike(2));
@@ -507,6 +510,9 @@ public final class QuestionsTest {
         Checks.due("of the living", h.rank(0), 2);
         Checks.law(h, "0");
         Checks.due("far 0", h.nearest(1), 0);
+        Checks.law(h, "99");
+        Checks.due("far 99", h.nearest(0), 2);
+        Checks.due("far 99", h.nearest(1), 99);
         Checks.due("one left", oneLeft().nearest(1), -1);
         Checks.due("one left", oneLeft().rank(0), -1);
         Checks.due("nobody", nobody().nearest(0), -1);

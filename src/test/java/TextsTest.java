@@ -110,6 +110,10 @@ public final class TextsTest {
         dukedom("person   ", -9, 9);
         dukedom("person 1 2 3", -9, 12);
         dukedom("person 12 3;", -8, 7);
+        dukedom("person 10 9 9;", -8, 7);
+        dukedom("person 9 10 9;", -8, 9);
+        dukedom("person 9 9 10;", -8, 11);
+        dukedom("personz 1 2 3;", -9, 0);
         dukedom("person 1 2 x;", -9, 11);
         dukedom("person 1 2 3 4;", -9, 13);
         dukedom("persona 1 2 3;", -9, 0);
@@ -210,6 +214,7 @@ public final class TextsTest {
         law("64*64*64*64*64*2%(0-1)+9", 9);
         law("1+(2*(3+(4*(5+(6-7)))))", 39);
         law("nose+temper" + Checks.times("+1", 69), 77);
+        law(Checks.times("1+1*most[0,", 6) + "1+1*3" + Checks.times("]", 6), 10);
     }
 
     private static int clamp(int x) {
@@ -252,6 +257,8 @@ public final class TextsTest {
         lawFault("(((((( least [1,2]))))))", -7, 7);
         lawFault("((((((mosts[1,2]))))))", -9, 6);
         lawFault("most[1,most[2,most[3,most[4,most[5,most[6,(7)]]]]]]", -7, 42);
+        lawFault(Checks.times("least[", 7) + "1", -7, 36);
+        lawFault("nosez", -9, 0);
         lawFault("1;", -9, 1);
         lawFault("1" + (char) 200, -9, 1);
     }
@@ -275,6 +282,10 @@ public final class TextsTest {
                 + "again 14[die 7;];year;year;year;"), 2);
         Checks.due("refused ones begun", h.told(10), 194);
         Checks.due("empty agains end", Checks.work(h, "again 60[again 60[again 60[];];];year;"), 0);
+        Checks.due("empty agains are gone through", Checks.work(h, "again 3[again 60[again 60[];];];"
+                + "again 1[again 11[again 60[];];];year;"), 1);
+        Checks.due("numbers at the most", Checks.work(h, "feign 7 2 9;drop 7;birth 7 7;die 7;again 60[];"), 0);
+        Checks.due("all refused", h.told(10), 4);
     }
 
     private static void workFault(String text, int want, int fault) {
