@@ -846,10 +846,16 @@ public final class FarthestHeir {
             return true;
         }
 
-        boolean passYear() {
+        /** The STEP year, which alone has a last YEAR. */
+        boolean stepYear() {
             if (year >= YEAR_LAST) {
                 return false;
             }
+            passYear();
+            return true;
+        }
+
+        void passYear() {
             for (int p = 0; p < persons; p++) {
                 if (lives(p)) {
                     age[p]++;
@@ -857,7 +863,6 @@ public final class FarthestHeir {
             }
             reign += duke == NONE ? 0 : 1;
             year++;
-            return true;
         }
     }
 
@@ -1366,7 +1371,7 @@ public final class FarthestHeir {
                 case DROP: return realm.unmask(p);
                 case BIRTH: return realm.bear(p, part(at, 2));
                 case DIE: return realm.bury(p, law);
-                default: return realm.passYear();
+                default: return realm.stepYear();
             }
         }
     }

@@ -88,15 +88,40 @@ public final class CenturyTest {
         }
     }
 
+    /** A CENTURY goes on beyond YEAR 900: by a LAW that forgets the YEARS ahead of it, as one from YEAR 0 on. */
     private static void lastYears() {
-        FarthestHeir h = Checks.ruled(FIVE);
-        for (int i = 0; i < 5; i++) {
-            Checks.work(h, "again 3[again 60[year;];];");
+        int[] begins = {804, 820, 860, 897, 899, 900};
+        for (int begin : begins) {
+            FarthestHeir late = begun(begin, begin);
+            FarthestHeir early = begun(0, begin);
+            Checks.due("the year", late.told(5), begin);
+            for (int from = -12; from < 12; from++) {
+                same(late, early, from, 96, 4);
+                same(late, early, from, 40, 9);
+                same(late, early, from, 5, 16);
+            }
+            Checks.due("nothing stays", late.told(5), begin);
+            Checks.due("nothing stays", late.person(0, 6), begin + 20);
         }
-        Checks.law(h, "least[age - 915, 5] + person - year + 900");
-        Checks.due("births go on in year 900", h.century(5, 90, 3, 3), 8);
         Checks.due("nobody without people", new FarthestHeir().century(5, 9, 9, 0), -1);
         Checks.due("nobody without people", new FarthestHeir().century(5, 9, 9, 2), 0);
+    }
+
+    private static FarthestHeir begun(int years, int rest) {
+        FarthestHeir h = Checks.ruled(FIVE);
+        Checks.passed(h, years);
+        Checks.work(h, "feign 0 0 7;die 3;");
+        Checks.law(h, "(nose + year % R * person + age % R / 3 * 5 + reign * temper) % 40".replace("R", "" + rest));
+        return h;
+    }
+
+    private static void same(FarthestHeir late, FarthestHeir early, int from, int years, int q) {
+        String what = "from " + from + " " + years + " " + q + " ";
+        int part = from & 3;
+        Checks.due("century " + what + part, late.century(from, years, q, part), early.century(from, years, q, part));
+        part = (from & 127) % 3;
+        Checks.due("span " + what + part, late.span(from * 77, 5, years, q, part, 2),
+                early.span(from * 77, 5, years, q, part, 2));
     }
 
     private static void refusals() {

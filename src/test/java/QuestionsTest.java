@@ -94,14 +94,7 @@ public final class QuestionsTest {
     private static void ahead() {
         FarthestHeir h = Checks.ruled(FOUR);
         Checks.law(h, "least[year * person, 25] + reign");
-        Checks.due("now", h.ahead(0, 0), 0);
-        Checks.due("now far", h.ahead(0, 1), 0);
-        Checks.due("in a year", h.ahead(1, 0), 3);
-        Checks.due("in a year far", h.ahead(1, 1), 4);
-        Checks.due("in five years", h.ahead(5, 2), 8);
-        Checks.due("in ten years", h.ahead(10, 2), 12);
-        Checks.due("in twenty years", h.ahead(20, 2), 13);
-        Checks.due("in thirteen years", h.ahead(13, 0), 2);
+        aheadFrom(h);
         Checks.due("nothing stays", h.told(5), 0);
         Checks.due("nothing stays", h.person(0, 6), 20);
         Checks.illegal("n", () -> h.ahead(-1, 0));
@@ -114,6 +107,41 @@ public final class QuestionsTest {
         Checks.due("of one alone", oneLeft().ahead(9, 1), 0);
         Checks.due("of nobody", nobody().ahead(9, 0), -1);
         Checks.due("of nobody", nobody().ahead(9, 2), 0);
+        aheadBeyond();
+    }
+
+    private static void aheadFrom(FarthestHeir h) {
+        Checks.due("now", h.ahead(0, 0), 0);
+        Checks.due("now far", h.ahead(0, 1), 0);
+        Checks.due("in a year", h.ahead(1, 0), 3);
+        Checks.due("in a year far", h.ahead(1, 1), 4);
+        Checks.due("in five years", h.ahead(5, 2), 8);
+        Checks.due("in ten years", h.ahead(10, 2), 12);
+        Checks.due("in twenty years", h.ahead(20, 2), 13);
+        Checks.due("in thirteen years", h.ahead(13, 0), 2);
+        Checks.due("in 99 years all are 99 far", h.ahead(99, 0), 0);
+        Checks.due("in 99 years far", h.ahead(99, 1), 99);
+    }
+
+    /** Only the STEP year has a last YEAR: what is asked goes beyond it. */
+    private static void aheadBeyond() {
+        int[] begins = {801, 802, 850, 887, 895, 899, 900};
+        for (int begin : begins) {
+            FarthestHeir h = Checks.ruled(FOUR);
+            Checks.passed(h, begin);
+            Checks.due("the year", h.told(5), begin);
+            Checks.law(h, "least[year % " + begin + " * person, 25] + reign % " + begin);
+            aheadFrom(h);
+            Checks.law(h, "age - " + begin);
+            Checks.due("ages", h.ahead(40, 1), 60);
+            Checks.due("at twenty", h.ahead(0, 2), 13);
+            Checks.law(h, "age - 41 - " + begin);
+            Checks.due("at nineteen behind forty years", h.ahead(40, 2), 0);
+            Checks.due("at twenty behind 41 years", h.ahead(41, 2), 13);
+            Checks.due("nothing stays", h.told(5), begin);
+            Checks.due("nothing stays", h.told(3), begin);
+            Checks.due("nothing stays", h.person(0, 6), 20 + begin);
+        }
     }
 
     private static void after() {

@@ -136,21 +136,23 @@ public final class StepsTest {
 
     private static void lastYear() {
         FarthestHeir h = Checks.ruled(FOUR);
-        for (int i = 0; i < 5; i++) {
-            Checks.work(h, "again 3[again 60[year;];];");
-        }
+        Checks.passed(h, 900);
         Checks.due("year 900", h.told(5), 900);
         Checks.due("reign 900", h.told(3), 900);
         Checks.due("age 920", h.person(0, 6), 920);
         step(h, "year;", false);
         Checks.due("still 900", h.told(5), 900);
         Checks.due("still 920", h.person(0, 6), 920);
-        Checks.law(h, "year - 890");
-        Checks.due("no year ahead of 900", h.ahead(50, 1), 10);
-        h.undo();
-        h.undo();
-        Checks.law(h, "year - 720");
-        Checks.due("years ahead", h.ahead(50, 1), 50);
+        Checks.due("a year refused between", Checks.work(h, "feign 0 0 7;year;drop 0;again 3[year;];"), 2);
+        Checks.due("four are refused", h.told(10), 4);
+        for (int i = 0; i < 3; i++) {
+            h.undo();
+        }
+        Checks.due("year 720", h.told(5), 720);
+        Checks.passed(h, 179);
+        Checks.due("year 899", h.told(5), 899);
+        Checks.due("one year more, of two", Checks.work(h, "again 2[year;];"), 1);
+        Checks.due("the last one", h.told(5), 900);
     }
 
     private static void undoing() {

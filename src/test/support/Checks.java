@@ -82,6 +82,17 @@ final class Checks {
         return h;
     }
 
+    /** Passes so many YEARS, by as few WORKS as may be. */
+    static void passed(FarthestHeir h, int years) {
+        for (int left = years; left > 0; left -= 180) {
+            StringBuilder text = new StringBuilder();
+            for (int n = Math.min(left, 180); n > 0; n -= 60) {
+                text.append("again ").append(Math.min(n, 60)).append("[year;];");
+            }
+            work(h, text.toString());
+        }
+    }
+
     static String times(String text, int n) {
         StringBuilder all = new StringBuilder();
         for (int i = 0; i < n; i++) {
