@@ -95,7 +95,7 @@ public final class CenturyTest {
             FarthestHeir late = begun(begin, begin);
             FarthestHeir early = begun(0, begin);
             Checks.due("the year", late.told(5), begin);
-            for (int from = -12; from < 12; from++) {
+            for (int from = -8; from < 8; from++) {
                 same(late, early, from, 96, 4);
                 same(late, early, from, 40, 9);
                 same(late, early, from, 5, 16);
@@ -116,12 +116,15 @@ public final class CenturyTest {
     }
 
     private static void same(FarthestHeir late, FarthestHeir early, int from, int years, int q) {
-        String what = "from " + from + " " + years + " " + q + " ";
-        int part = from & 3;
-        Checks.due("century " + what + part, late.century(from, years, q, part), early.century(from, years, q, part));
-        part = (from & 127) % 3;
-        Checks.due("span " + what + part, late.span(from * 77, 5, years, q, part, 2),
-                early.span(from * 77, 5, years, q, part, 2));
+        String what = from + " " + years + " " + q + " ";
+        for (int part = 0; part < 4; part++) {
+            Checks.due("century " + what + part, late.century(from, years, q, part), early.century(from, years, q, part));
+        }
+        int many = 1 + (from & 3);
+        for (int part = 0; part < 3; part++) {
+            Checks.due("span " + what + part, late.span(from * 77, many, years, q, part, 2),
+                    early.span(from * 77, many, years, q, part, 2));
+        }
     }
 
     private static void refusals() {
