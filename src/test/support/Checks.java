@@ -6,17 +6,38 @@ final class Checks {
         long answer();
     }
 
+    interface CallOf {
+        long answer(int x);
+    }
+
     private static int wrong = 0;
     private static int made = 0;
+    private static String sentence = "";
 
     private Checks() {
+    }
+
+    /** Which words of the document the next answers are held against. */
+    static void of(String words) {
+        sentence = "[" + words + "] ";
+    }
+
+    private static void tellWrong(String told) {
+        wrong++;
+        System.out.println(sentence + told);
     }
 
     static void due(String what, long got, long want) {
         made++;
         if (got != want) {
-            wrong++;
-            System.out.println(what + " answered " + got + ", due is " + want);
+            tellWrong(what + " answered " + got + ", due is " + want);
+        }
+    }
+
+    static void same(String what, String got, String want) {
+        made++;
+        if (!got.equals(want)) {
+            tellWrong(what + " is\n  " + got + ", due is\n  " + want);
         }
     }
 
@@ -30,8 +51,17 @@ final class Checks {
             got = e.getClass() == kind ? null : "threw " + e.getClass().getName();
         }
         if (got != null) {
-            wrong++;
-            System.out.println(what + " " + got + ", due is " + kind.getName());
+            tellWrong(what + " " + got + ", due is " + kind.getName());
+        }
+    }
+
+    /** The call must answer, whatever it is. */
+    static void answered(String what, Call call) {
+        made++;
+        try {
+            call.answer();
+        } catch (RuntimeException e) {
+            tellWrong(what + " threw " + e.getClass().getName() + ", due is an answer");
         }
     }
 
@@ -41,6 +71,37 @@ final class Checks {
 
     static void noSuch(String what, Call call) {
         refused(what, NoSuchElementException.class, call);
+    }
+
+    /** From least to most there is an answer; one less, one more and what is far away are refused, and counted once. */
+    static void range(FarthestHeir h, String what, int least, int most, CallOf call) {
+        answered(what + " " + least, () -> call.answer(least));
+        answered(what + " " + most, () -> call.answer(most));
+        int[] outside = {least - 1, most + 1, Integer.MIN_VALUE, Integer.MAX_VALUE};
+        int noSuch = h.status(0);
+        int illegal = h.status(1);
+        for (int x : outside) {
+            illegal(what + " " + x, () -> call.answer(x));
+        }
+        due("illegal ones of " + what, h.status(1) - illegal, outside.length);
+        due("no such ones of " + what, h.status(0) - noSuch, 0);
+    }
+
+    /** Each PERSON there is has an answer; all other numbers are refused, and counted once. */
+    static void persons(FarthestHeir h, String what, CallOf call) {
+        int there = h.told(0);
+        for (int p = 0; p < there; p++) {
+            int person = p;
+            answered(what + " of " + p, () -> call.answer(person));
+        }
+        int[] outside = {-1, there, 8, Integer.MIN_VALUE, Integer.MAX_VALUE};
+        int noSuch = h.status(0);
+        int illegal = h.status(1);
+        for (int x : outside) {
+            noSuch(what + " of " + x, () -> call.answer(x));
+        }
+        due("no such ones of " + what, h.status(0) - noSuch, outside.length);
+        due("illegal ones of " + what, h.status(1) - illegal, 0);
     }
 
     static void feed(FarthestHeir h, String text) {
@@ -90,6 +151,12 @@ final class Checks {
                 text.append("again ").append(Math.min(n, 60)).append("[year;];");
             }
             work(h, text.toString());
+        }
+    }
+
+    static void undone(FarthestHeir h, int works) {
+        for (int i = 0; i < works; i++) {
+            h.undo();
         }
     }
 
