@@ -1192,7 +1192,7 @@ public final class FarthestHeir {
         private static final int WIDTH = 4;
         private static final int AGAIN_MOST = 60;
         private static final int BEGUN_MOST = 200;
-        /** A step has five bytes at the least. */
+        /** A plain step takes one place and has five bytes at the least, an again two places and nine bytes. */
         private static final int STEPS_MOST = WORK_MOST / 4;
         /** Each step that is begun is followed by 60 closings of an empty again at the most. */
         private static final int MOVES_MOST = (BEGUN_MOST + 1) * (AGAIN_MOST + 2);
