@@ -432,13 +432,13 @@ public final class FarthestHeir {
     public int span(int seed, int many, int years, int q, int what, int person) throws IllegalArgumentException {
         need(within(many, 1, 20) && within(years, 1, 96) && within(q, 0, 16) && within(what, 0, 2));
         need(realm.has(person));
-        int fewest = Integer.MAX_VALUE;
+        int fewest = NONE;
         int most = 0;
         int survived = 0;
         for (int i = 0; i < many; i++) {
             trial.become(realm);
             chronicle.run(trial, ruling, seed + i, years, q);
-            fewest = Math.min(fewest, trial.dukes);
+            fewest = fewest == NONE ? trial.dukes : Math.min(fewest, trial.dukes);
             most = Math.max(most, trial.dukes);
             survived += trial.lives(person) ? 1 : 0;
         }
@@ -1615,7 +1615,8 @@ public final class FarthestHeir {
             }
             int needed = neededFar(realm, law, person);
             mind(realm, realm.duke);
-            int least = Integer.MAX_VALUE;
+            // More than anybody can change.
+            int least = TRAITS * NUMBERS;
             int numbers = NONE;
             for (int kind = 0; kind < KINDS; kind++) {
                 int by = changed(realm, person, kind);

@@ -10,6 +10,8 @@ import java.util.Arrays;
 import java.util.HashSet;
 import java.util.Set;
 import java.util.TreeSet;
+import java.util.regex.Matcher;
+import java.util.regex.Pattern;
 
 /** The class has the document's face and no more, and keeps to what can be seen of the language's rules. */
 public final class FaceTest {
@@ -38,6 +40,7 @@ public final class FaceTest {
         }
         holds("some twelve classes", FarthestHeir.class.getDeclaredClasses().length <= 12);
         words();
+        library();
         Checks.end();
     }
 
@@ -96,13 +99,29 @@ public final class FaceTest {
         return all;
     }
 
+    /** Of the library only what rule 4 lists, and of that only what the class needs. */
+    private static void library() throws IOException {
+        Set<String> listed = Set.of("Math.abs", "Math.max", "Math.min", "Integer.bitCount",
+                "Integer.numberOfTrailingZeros", "Long.numberOfTrailingZeros", "System.arraycopy");
+        String source = Files.readString(SOURCE);
+        Matcher used = Pattern.compile("\\b(Math|Integer|Long|System|Arrays|String|Character|Boolean)\\.(\\w+)")
+                .matcher(source);
+        while (used.find()) {
+            holds(used.group() + " is listed", listed.contains(used.group()));
+        }
+        Matcher imported = Pattern.compile("(?m)^import (.*);").matcher(source);
+        while (imported.find()) {
+            holds(imported.group(1) + " is of the face", imported.group(1).equals("java.util.NoSuchElementException"));
+        }
+    }
+
     /** Words that the language's rules leave out. */
     private static void words() throws IOException {
         String source = Files.readString(SOURCE).replaceAll("(?s)/\\*.*?\\*/", "").replaceAll("//.*", "");
         String[] none = {"catch", "finally", "try", "synchronized", "assert", "->", "::", "package", "System.out",
             "Exact", "equals", "hashCode", "toString", "Math.random", "@", "double", "float", "volatile", "native"};
         for (String word : none) {
-            holds("no " + word, !source.matches("(?s).*(^|\\W)" + java.util.regex.Pattern.quote(word) + "(\\W|$).*"));
+            holds("no " + word, !source.matches("(?s).*(^|\\W)" + Pattern.quote(word) + "(\\W|$).*"));
         }
         for (char sign : Files.readString(SOURCE).toCharArray()) {
             if (sign > 126) {

@@ -220,6 +220,12 @@ public final class StateEdgesTest {
             Checks.due("TAPE", h.count(1), 0);
             Checks.same("all", Picture.ofAll(h), before);
         }
+        Checks.of("Promise 5: likewise (n to 150), the TAPE stays: a wrong n is refused with 16 WORKS, too");
+        h.feed(0, 0, 0, 0, 0);
+        Checks.illegal("more than there are", () -> h.work(21));
+        Checks.illegal("less than none", () -> h.work(-1));
+        Checks.due("TAPE", h.count(1), 20);
+        Checks.due("a right n", h.work(20), -20);
         Checks.of("Promise 5: 16 WORKS are there that were not undone");
         Checks.due("undone", h.undo(), 15);
         Checks.due("a faulty one is none", Checks.work(h, "x"), -9);
