@@ -7,7 +7,7 @@ import java.util.Map;
 import java.util.NoSuchElementException;
 
 /**
- * The document once more, written apart from the class: texts as trees, states as copies, every question as a plain
+ * The document once more, in another way than the class: texts as trees, states as copies, every question as a plain
  * search. ModelTest holds both against each other, so nothing here is shared with the class.
  */
 final class Model {
